@@ -17,6 +17,9 @@ public final class ChancesTest {
         restsOf("HP1D0030D5030", 0, 1, 2, 1);
         // Both are needed: (1, 1), and (0, 0), where one alone would clap for nothing.
         restsOf("HP2D0030D5030", 0, 1, 2, 0);
+        // The other never claps: the one comes, whatever it does.
+        restsOf("HP1D0030D5010", 0, 1, 2, 10);
+        restsOf("HP1P1D9190D0010D5030D7190", 2, 1, 2, 10);
         // Never enough: to clap costs 1 and brings nothing.
         restsOf("HP3D0030D5030", 0, 1, 1, 0);
         // Neither ever claps, nor matters: all four rest.
@@ -110,26 +113,66 @@ public final class ChancesTest {
         LastBows called = Check.house("HP1D0090");
         called.call(0);
         called.call(0);
-        int oneByOne = seasonWith(called, lotSeed(19));
-        check.due("a night adds what was called", oneByOne, 2);
-        check.due("a call adds one more", seasonWith(called, lotSeed(0)), 3);
-        check.due("and by 3, too", seasonWith(called, lotSeed(3)), 3);
-        check.due("no player 1", seasonWith(called, lotSeed(1)), 2);
-        check.due("no player 2", seasonWith(called, lotSeed(5)), 2);
-        check.due("no player's flowers", seasonWith(called, lotSeed(8)), 2);
-        check.due("seated", seasonWith(called, lotSeed(18)), 2);
+        check.due("a night adds what was called", seasonsBy(called, 19), 2);
+        check.due("a call adds one more", seasonsBy(called, 0), 3);
+        check.due("each time adds", seasonsBy(called, 3, 20, 0), 3 + 3 + 4);
+        check.due("no player 1", seasonsBy(called, 1), 2);
+        check.due("no player 2", seasonsBy(called, 5), 2);
+        seasonsOfPlayers();
+        seasonsOfSeats();
+        seasonsOfNights();
     }
 
-    private static int seasonWith(LastBows x, long seed) {
-        x.seed(seed);
-        return x.seasons(1);
+    private static void seasonsOfPlayers() {
+        LastBows weak = Check.house("HP1P1P1D0020D3120D6220");
+        for (int player = 0; player < 3; player++) {
+            check.due("too weak", seasonsBy(weak, player), 0);
+            check.due("flowers, then called", seasonsBy(weak, 6 + player, player), 1);
+            check.due("flowers, then called by 3 more", seasonsBy(weak, 6 + player, 3 + player), 1);
+            check.due("another's flowers", seasonsBy(weak, 6 + (player + 1) % 3, player), 0);
+            check.due("who is dead stays so", seasonsBy(weak, player, 6 + player, player), 0);
+        }
+        check.due("flowers are one at a time", seasonsBy(Check.house("HP1D0010"), 6, 0), 0);
+        check.due("nobody's flowers", seasonsBy(Check.house("HP1D0020"), 7, 8, 0), 0);
     }
 
-    /** A seed whose first season is the lot that is asked for. */
-    private static long lotSeed(int lot) {
+    private static void seasonsOfSeats() {
+        check.due("apart", seasonsBy(Check.house("HP2D4030D9021"), 19, 0), 0);
+        check.due("seated at 8", seasonsBy(Check.house("HP2D4030D9021"), 17, 0), 1);
+        check.due("seated at 7", seasonsBy(Check.house("HP2D4030D9021"), 16, 0), 0);
+        check.due("9 is taken", seasonsBy(Check.house("HP2D4030D9021"), 18, 0), 0);
+        check.due("seated at 9", seasonsBy(Check.house("HP2D4030D8021"), 18, 0), 1);
+        check.due("seated at 0", seasonsBy(Check.house("HP2D4030D1021"), 9, 0), 1);
+        check.due("a taken seat leaves it where it is", seasonsBy(Check.house("HP2D4030D5021"), 14, 0), 1);
+        check.due("the seat left is free", seasonsBy(Check.house("HP2D4030D5021"), 9, 13, 0), 1);
+    }
+
+    private static void seasonsOfNights() {
+        LastBows x = Check.house("HP1D0030");
+        for (int lot = 19; lot <= 23; lot++) {
+            check.due("a night between, by " + lot, seasonsBy(x, 0, lot, 0), 1 + 1 + 2);
+        }
+        check.due("none between", seasonsBy(x, 0, 18, 0), 1 + 1 + 1);
+    }
+
+    private static int seasonsBy(LastBows x, int... lots) {
+        x.seed(seedFor(lots));
+        return x.seasons(lots.length);
+    }
+
+    /** A seed by which the seasons' lots are those that are asked for. */
+    private static long seedFor(int... lots) {
         for (long seed = 0; ; seed++) {
-            long x = seed * 6364136223846793005L + 1442695040888963407L;
-            if ((x >>> 33) % 24 == lot) {
+            long x = seed;
+            int right = 0;
+            while (right < lots.length) {
+                x = x * 6364136223846793005L + 1442695040888963407L;
+                if ((x >>> 33) % 24 != lots[right]) {
+                    break;
+                }
+                right++;
+            }
+            if (right == lots.length) {
                 return seed;
             }
         }

@@ -15,6 +15,7 @@ public final class HouseTest {
         hushed();
         ushers();
         lonely();
+        full();
         check.end("HouseTest");
     }
 
@@ -263,5 +264,22 @@ public final class HouseTest {
         LastBows spent = Check.house("HP1D0012");
         spent.call(0);
         check.due("a spent lonely one", spent.player(0, 2), 0);
+    }
+
+    private static void full() {
+        LastBows x = Check.house("HP1P2P3D0030D1011D3190D4013D5090D8212D9290");
+        check.due("things", 10 * x.about(0) + x.about(1), 37);
+        check.due("taken", x.about(4), 1 + 2 + 8 + 16 + 32 + 256 + 512);
+        check.due("vigour", x.about(5), 33);
+        check.due("hushed", x.about(6), 4 + 16);
+        check.due("claps for 0", x.player(0, 2), 1 + 2);
+        check.due("claps for 1", x.player(1, 2), 0);
+        check.due("claps for 2", x.player(2, 2), 64);
+        for (int hand = 0; hand < 7; hand++) {
+            check.due("hushed " + hand, x.hand(hand, 5), hand == 2 || hand == 4 ? 1 : 0);
+        }
+        check.due("call", x.call(0), 2);
+        check.due("flowers", x.flowers(2), 1);
+        check.due("night", x.night(), 34);
     }
 }

@@ -78,6 +78,8 @@ public final class ToComeTest {
         check.due("wants(2, 0)", x.wants(2, 0), LastBows.UNKNOWN);
         LastBows lonely = Check.house("HP1D0012");
         check.due("eight", lonely.wants(0, 9), 8);
+        lonely.call(0);
+        check.due("nine", lonely.wants(0, 9), 9);
         x.call(1);
         check.due("dead", x.wants(1, 1), LastBows.LATE);
         check.due("bad ahead of late", x.wants(1, 10), LastBows.BAD);
@@ -133,6 +135,10 @@ public final class ToComeTest {
         for (int verb = 7; verb <= 10; verb++) {
             check.due("verb " + verb % 10, x.judge(2, 400000 + verb % 10 * 100), 1);
         }
+        LastBows weak = Check.house("HP1D0010");
+        check.due("flowers are one at a time", weak.judge(2, 200601), 1);
+        check.due("two are two", weak.judge(3, 200200601), LastBows.NONE);
+        check.due("noughts alone", weak.judge(4, 0), 0);
         check.due("leading noughts", x.judge(4, 400), 0);
         x.call(1);
         check.due("dead one not called", x.judge(2, 400101), 1);
