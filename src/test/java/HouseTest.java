@@ -231,7 +231,7 @@ public final class HouseTest {
     }
 
     private static void ushers() {
-        LastBows chain = Check.house("HP1D5011D4011D3011D2030D7011D6121".replace("D6121", "D6010"));
+        LastBows chain = Check.house("HP1D5011D4011D3011D2030D7011D6010");
         check.due("a chain told backwards", chain.player(0, 2), 15);
         LastBows alone = Check.house("HP1D0091D1091");
         check.due("ushers need a plain one", alone.player(0, 2), 0);
