@@ -113,11 +113,11 @@ public final class ChancesTest {
         LastBows called = Check.house("HP1D0090");
         called.call(0);
         called.call(0);
-        check.due("a night adds what was called", seasonsBy(called, 19), 2);
-        check.due("a call adds one more", seasonsBy(called, 0), 3);
-        check.due("each time adds", seasonsBy(called, 3, 20, 0), 3 + 3 + 4);
-        check.due("no player 1", seasonsBy(called, 1), 2);
-        check.due("no player 2", seasonsBy(called, 5), 2);
+        check.due("a night adds what was called", Lots.seasonsBy(called, 19), 2);
+        check.due("a call adds one more", Lots.seasonsBy(called, 0), 3);
+        check.due("each time adds", Lots.seasonsBy(called, 3, 20, 0), 3 + 3 + 4);
+        check.due("no player 1", Lots.seasonsBy(called, 1), 2);
+        check.due("no player 2", Lots.seasonsBy(called, 5), 2);
         seasonsOfPlayers();
         seasonsOfSeats();
         seasonsOfNights();
@@ -126,56 +126,33 @@ public final class ChancesTest {
     private static void seasonsOfPlayers() {
         LastBows weak = Check.house("HP1P1P1D0020D3120D6220");
         for (int player = 0; player < 3; player++) {
-            check.due("too weak", seasonsBy(weak, player), 0);
-            check.due("flowers, then called", seasonsBy(weak, 6 + player, player), 1);
-            check.due("flowers, then called by 3 more", seasonsBy(weak, 6 + player, 3 + player), 1);
-            check.due("another's flowers", seasonsBy(weak, 6 + (player + 1) % 3, player), 0);
-            check.due("who is dead stays so", seasonsBy(weak, player, 6 + player, player), 0);
+            check.due("too weak", Lots.seasonsBy(weak, player), 0);
+            check.due("flowers, then called", Lots.seasonsBy(weak, 6 + player, player), 1);
+            check.due("flowers, then called by 3 more", Lots.seasonsBy(weak, 6 + player, 3 + player), 1);
+            check.due("another's flowers", Lots.seasonsBy(weak, 6 + (player + 1) % 3, player), 0);
+            check.due("who is dead stays so", Lots.seasonsBy(weak, player, 6 + player, player), 0);
         }
-        check.due("flowers are one at a time", seasonsBy(Check.house("HP1D0010"), 6, 0), 0);
-        check.due("nobody's flowers", seasonsBy(Check.house("HP1D0020"), 7, 8, 0), 0);
+        check.due("flowers are one at a time", Lots.seasonsBy(Check.house("HP1D0010"), 6, 0), 0);
+        check.due("nobody's flowers", Lots.seasonsBy(Check.house("HP1D0020"), 7, 8, 0), 0);
     }
 
     private static void seasonsOfSeats() {
-        check.due("apart", seasonsBy(Check.house("HP2D4030D9021"), 19, 0), 0);
-        check.due("seated at 8", seasonsBy(Check.house("HP2D4030D9021"), 17, 0), 1);
-        check.due("seated at 7", seasonsBy(Check.house("HP2D4030D9021"), 16, 0), 0);
-        check.due("9 is taken", seasonsBy(Check.house("HP2D4030D9021"), 18, 0), 0);
-        check.due("seated at 9", seasonsBy(Check.house("HP2D4030D8021"), 18, 0), 1);
-        check.due("seated at 0", seasonsBy(Check.house("HP2D4030D1021"), 9, 0), 1);
-        check.due("a taken seat leaves it where it is", seasonsBy(Check.house("HP2D4030D5021"), 14, 0), 1);
-        check.due("the seat left is free", seasonsBy(Check.house("HP2D4030D5021"), 9, 13, 0), 1);
+        check.due("apart", Lots.seasonsBy(Check.house("HP2D4030D9021"), 19, 0), 0);
+        check.due("seated at 8", Lots.seasonsBy(Check.house("HP2D4030D9021"), 17, 0), 1);
+        check.due("seated at 7", Lots.seasonsBy(Check.house("HP2D4030D9021"), 16, 0), 0);
+        check.due("9 is taken", Lots.seasonsBy(Check.house("HP2D4030D9021"), 18, 0), 0);
+        check.due("seated at 9", Lots.seasonsBy(Check.house("HP2D4030D8021"), 18, 0), 1);
+        check.due("seated at 0", Lots.seasonsBy(Check.house("HP2D4030D1021"), 9, 0), 1);
+        check.due("a taken seat leaves it where it is", Lots.seasonsBy(Check.house("HP2D4030D5021"), 14, 0), 1);
+        check.due("the seat left is free", Lots.seasonsBy(Check.house("HP2D4030D5021"), 9, 13, 0), 1);
     }
 
     private static void seasonsOfNights() {
         LastBows x = Check.house("HP1D0030");
         for (int lot = 19; lot <= 23; lot++) {
-            check.due("a night between, by " + lot, seasonsBy(x, 0, lot, 0), 1 + 1 + 2);
+            check.due("a night between, by " + lot, Lots.seasonsBy(x, 0, lot, 0), 1 + 1 + 2);
         }
-        check.due("none between", seasonsBy(x, 0, 18, 0), 1 + 1 + 1);
-    }
-
-    private static int seasonsBy(LastBows x, int... lots) {
-        x.seed(seedFor(lots));
-        return x.seasons(lots.length);
-    }
-
-    /** A seed by which the seasons' lots are those that are asked for. */
-    private static long seedFor(int... lots) {
-        for (long seed = 0; ; seed++) {
-            long x = seed;
-            int right = 0;
-            while (right < lots.length) {
-                x = x * 6364136223846793005L + 1442695040888963407L;
-                if ((x >>> 33) % 24 != lots[right]) {
-                    break;
-                }
-                right++;
-            }
-            if (right == lots.length) {
-                return seed;
-            }
-        }
+        check.due("none between", Lots.seasonsBy(x, 0, 18, 0), 1 + 1 + 1);
     }
 
     private static void nothingIsChanged() {

@@ -1,14 +1,29 @@
 /** What the tests share: a count of answers, and houses told in one go. */
 final class Check {
+    /** Figures that no bound of the document reaches, and those that only look small once they have wrapped around. */
+    static final int[] FAR = {Integer.MIN_VALUE, -64, -32, -10, -2, 64, 256, 1 << 16, Integer.MAX_VALUE};
+
     private int right = 0;
     private int wrong = 0;
+    private int begunAt = 0;
+    private String test = "";
+
+    /** What is wrong from here on is told with the test's name. */
+    void begin(String name) {
+        test = name + ": ";
+        begunAt = right + wrong;
+    }
+
+    int sinceBegin() {
+        return right + wrong - begunAt;
+    }
 
     void due(String call, long got, long want) {
         if (got == want) {
             right++;
         } else {
             wrong++;
-            System.out.println(call + " answered " + got + ", due is " + want);
+            System.out.println(test + call + " answered " + got + ", due is " + want);
         }
     }
 
@@ -16,9 +31,13 @@ final class Check {
         due(what, holds ? 1 : 0, 1);
     }
 
+    void same(String what, Object got, Object want) {
+        holds(what + ": " + got + " is " + want, got.equals(want));
+    }
+
     /** Ends with exit code 1 if an answer was wrong, as the tests under ../shared/tests do. */
-    void end(String test) {
-        System.out.println(test + ": " + right + " right, " + wrong + " wrong");
+    void end(String tests) {
+        System.out.println(tests + ": " + right + " right, " + wrong + " wrong");
         if (wrong != 0) {
             System.exit(1);
         }
