@@ -62,6 +62,14 @@ public final class BoundaryActsTest {
         check.due("hisser", x.hand(4, 4), 3);
     }
 
+    @Says({"each HAND that CLAPPED has 1 less VIGOUR", "HANDS 0, 1, .. (7 at most)"})
+    static void promise09_allSevenHandsHaveLess() {
+        LastBows x = Check.house("HP7D0030D1030D2030D3030D4030D5030D6030");
+        check.due("call(0)", x.call(0), 7);
+        check.due("the first", x.hand(0, 4), 2);
+        check.due("the last", x.hand(6, 4), 2);
+    }
+
     @Says("else he is DEAD.")
     static void promise09_whoClappedInVainHasNoLess() {
         LastBows x = Check.house("HP2D0030");
@@ -129,6 +137,14 @@ public final class BoundaryActsTest {
             check.due("his", x.hand(hand, 4), 2);
         }
         check.due("another's", x.hand(4, 4), 1);
+    }
+
+    @Says({"each HAND that is fond of a PLAYER has 1 more VIGOUR (9 at most)", "HANDS 0, 1, .. (7 at most)"})
+    static void promise10_allSevenHandsHaveMore() {
+        LastBows x = Check.house("HP1D0020D1020D2020D3020D4020D5020D6020");
+        check.due("loud", x.flowers(0), 7);
+        check.due("the first", x.hand(0, 4), 3);
+        check.due("the last", x.hand(6, 4), 3);
     }
 
     @Says("FLOWERS: how LOUD it is for him then.")
@@ -261,6 +277,16 @@ public final class BoundaryActsTest {
         LastBows x = Check.house("HP1D0010");
         x.flowers(0);
         check.due("night()", x.night(), 2);
+    }
+
+    @Says({"A NIGHT: each HAND of VIGOUR less than its FONDNESS has 1 more", "HANDS 0, 1, .. (7 at most)"})
+    static void promise12_allSevenHandsHaveMore() {
+        LastBows x = Check.house("HP7D0030D1030D2030D3030D4030D5030D6030");
+        x.call(0);
+        check.due("vigour", x.about(5), 14);
+        check.due("night()", x.night(), 21);
+        check.due("the first", x.hand(0, 4), 3);
+        check.due("the last", x.hand(6, 4), 3);
     }
 
     @Says("A NIGHT: VIGOUR of all HANDS.")

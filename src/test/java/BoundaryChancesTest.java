@@ -64,9 +64,25 @@ public final class BoundaryChancesTest {
         // Never loud enough: who claps has less for it, so both stay away.
         rests("HP3D0030D5030", 0, 1, 1, 0);
         rests("HP1D0030D5030", 0, 1, 2, 1);
-        // He needs too many: the lonely one has less only where it comes and the hisser does not.
+        // He needs too many: the plain one has less only where it comes and the hisser does not.
         rests("HP5D5080D6023", 0, 1, 3, 0);
         rests("HP1D0020D5020", 0, 1, 4, 0);
+    }
+
+    @Says({"RESTS of two HANDS for a PLAYER of whom both are fond", "HANDS 0, 1, .. (7 at most)"})
+    static void promise23_theFirstAndTheLastHandsRest() {
+        // Either of the first and the last but one is enough; the last one is too weak to matter.
+        String seven = "HP1P1D0030D1190D2190D3190D4190D5030D6020";
+        rests(seven, 0, 5, 2, 1);
+        rests(seven, 5, 0, 2, 1);
+        rests(seven, 5, 6, 2, 0);
+        rests(seven, 6, 0, 2, 0);
+        // Both of the last ones are needed.
+        rests("HP2P1D0190D1190D2190D3190D4190D5030D6030", 5, 6, 2, 0);
+        rests("HP2P1D0190D1190D2190D3190D4190D5030D6030", 6, 5, 2, 0);
+        // The last but one alone can clap.
+        rests("HP1P1D0190D1190D2190D3190D4190D5030D6020", 5, 6, 2, 10);
+        rests("HP1P1D0190D1190D2190D3190D4190D5030D6020", 6, 5, 2, 1);
     }
 
     @Says("the first one (10 times the one and the other)")
@@ -382,6 +398,13 @@ public final class BoundaryChancesTest {
                 check.due("lot " + lot, Lots.seasonsBy(x, lot, player), lot - 6 == player ? 1 : 0);
             }
         }
+    }
+
+    @Says("6 .. 8 that less 6 PLAYER has FLOWERS;")
+    static void promise26_flowersAreOneMoreEach() {
+        LastBows x = Check.house("HP1D0010");
+        check.due("one", Lots.seasonsBy(x, 6, 0), 0);
+        check.due("two", Lots.seasonsBy(x, 6, 6, 0), 1);
     }
 
     @Says("6 .. 8 that less 6 PLAYER has FLOWERS;")

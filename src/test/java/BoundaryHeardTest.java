@@ -170,7 +170,8 @@ public final class BoundaryHeardTest {
         whose(1, 3, 0, 1, 1, 1, 1, 0, 9, 1, 0);
     }
 
-    @Says({"LONELY: of VIGOUR 1 or more, if no PLAIN one and no USHER CLAPS.", "where others CLAPPED always (o = 1), or never (0)"})
+    @Says({"LONELY: of VIGOUR 1 or more, if no PLAIN one and no USHER CLAPS.",
+        "where others CLAPPED always (o = 1), or never (0)"})
     static void promise22_aLonelyOneClapsTillNothingIsLeft() {
         whose(1, 21, 0, 0, 1, 0, 1, 0, 1, 0, 0);
         whose(1, 29, 8, 0, 1);

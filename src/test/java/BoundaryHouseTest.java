@@ -230,7 +230,8 @@ public final class BoundaryHouseTest {
         claps("HP1D0092D1091", 1);
     }
 
-    @Says({"USHER: of VIGOUR 1 or more, if a HAND beside it CLAPS", "For a PLAYER, HANDS that are fond of him CLAP, others do not."})
+    @Says({"USHER: of VIGOUR 1 or more, if a HAND beside it CLAPS",
+        "For a PLAYER, HANDS that are fond of him CLAP, others do not."})
     static void promise07_anUsherDoesNotClapByAnothersHand() {
         claps("HP1P1D0190D1091", 0);
         claps("HP1P1D0090D1191D2091", 1);
@@ -267,7 +268,8 @@ public final class BoundaryHouseTest {
         claps("HP1D0090D1013D9012", 4);
     }
 
-    @Says({"LONELY: of VIGOUR 1 or more, if no PLAIN one and no USHER CLAPS.", "For a PLAYER, HANDS that are fond of him CLAP, others do not."})
+    @Says({"LONELY: of VIGOUR 1 or more, if no PLAIN one and no USHER CLAPS.",
+        "For a PLAYER, HANDS that are fond of him CLAP, others do not."})
     static void promise07_aLonelyOneClapsWhenOthersClapForAnother() {
         claps("HP1P1D0012D9190", 1);
     }

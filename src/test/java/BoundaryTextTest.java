@@ -300,6 +300,18 @@ public final class BoundaryTextTest {
         faultOf("HP1D0010D", 9);
     }
 
+    @Says("its length, if it is only not at its end")
+    static void promise04_whatWasWipedIsBehindNoCutText() {
+        String whole = "HP1D0010";
+        for (int length = 0; length < whole.length(); length++) {
+            LastBows x = new LastBows();
+            Check.tell(x, whole);
+            Check.tell(x, whole.substring(0, length));
+            boolean isHouse = length == 1 || length == 3;
+            check.due("cut at " + length, x.fault(), isHouse ? LastBows.NONE : length);
+        }
+    }
+
     @Says("FAULT: the place (from 0) of the first byte by which THE TEXT can be no HOUSE, whatever came behind it")
     static void promise04_whatComesBehindTheFaultIsAllOne() {
         faultOf("HP8", 2);

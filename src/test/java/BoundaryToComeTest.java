@@ -144,6 +144,12 @@ public final class BoundaryToComeTest {
         best("HP7P1D0190D6040", 1, 1, 0);
     }
 
+    @Says({"the SEAT (its own, or one where none is)", "9 in a row (0 is beside 1 alone, 9 beside 8)"})
+    static void promise15_behindTheLastSeatIsNone() {
+        // Each seat of the row is beside a hisser; one behind it would not be.
+        best("HP1D0040D1013D4013D6013D8013", 0, 0, 0);
+    }
+
     @Says("YET is most for the PLAYER of whom it is fond")
     static void promise15_itIsForThePlayerOfWhomItIsFond() {
         // At seat 0 the hisser would hush player 0's hand, at 9 its own player's: its own is what counts.
