@@ -3,13 +3,16 @@ import java.util.Random;
 /** All promises: long runs of calls, drawn by fixed seeds, each answered by LastBows and by Model. */
 public final class ModelTest {
     private static final Check check = new Check();
-    private static final int RUNS = 700;
-    private static final int CALLS = 450;
+    private static final int RUNS = 2500;
+    /** What an object answers behind its 512th call is free, so a run ends where one more turn could go beyond. */
+    private static final int MOST_CALLS = 512;
+    private static final int MOST_OF_A_TURN = 80;
 
     private final Random random;
     private final String name;
     private final LastBows bows = new LastBows();
     private final Model model = new Model();
+    private int calls = 0;
 
     private ModelTest(int run) {
         random = new Random(run);
@@ -28,7 +31,7 @@ public final class ModelTest {
             tell(drawHouse());
             due("house()", bows.house(), model.house());
         }
-        for (int i = 0; i < CALLS; i++) {
+        while (calls <= MOST_CALLS - MOST_OF_A_TURN) {
             int draw = random.nextInt(100);
             if (draw < 30) {
                 act();
@@ -47,9 +50,11 @@ public final class ModelTest {
                 due("house()", bows.house(), model.house());
             }
         }
+        check.holds(name + calls + " calls are within what is promised", calls <= MOST_CALLS);
     }
 
     private void due(String call, long got, long want) {
+        calls++;
         check.due(name + call, got, want);
     }
 
