@@ -17,6 +17,9 @@ public final class BoundaryLedgerTest {
         BoundaryActsTest.class, BoundaryToComeTest.class, BoundaryHeardTest.class, BoundaryChancesTest.class,
         BoundarySlotsTest.class);
 
+    /** These quote the document, too, but hold no boundary, so a boundary that they alone quote still lacks its test. */
+    private static final List<Class<?>> OTHERS = List.of(GoneOnTest.class, OnlyThatTest.class);
+
     /** The words by which the document names a bound, a choice among like ones, or a refusal. */
     private static final Pattern BOUNDARY = Pattern.compile("at most|or more|\\d+ \\.\\. \\d+|the least|at first|At first"
         + "|alone|in least terms|less than 0|wrapping|if there is|if it can be|forgotten|refused|told first|told ahead"
@@ -50,11 +53,25 @@ public final class BoundaryLedgerTest {
             }
         }
         check.due("tests of one name", names.size() - names.stream().distinct().count(), 0);
+        for (Class<?> type : OTHERS) {
+            quotesAreTheDocuments(type);
+        }
         for (int promise = 1; promise <= PROMISES; promise++) {
             check.holds("promise " + promise + " has a boundary test", tests[promise] > 0);
         }
         for (int part = 0; part <= PROMISES; part++) {
             eachBoundaryIsHeld(part);
+        }
+    }
+
+    private void quotesAreTheDocuments(Class<?> type) {
+        for (Method test : Boundaries.of(type)) {
+            check.holds(test.getName() + " tells promise", test.getName().matches("promise\\d\\d_\\w+"));
+            String its = parts[Boundaries.promiseOf(test)];
+            for (String words : test.getAnnotation(Says.class).value()) {
+                check.holds(test.getName() + " quotes the document: " + words,
+                    its.contains(words) || parts[0].contains(words));
+            }
         }
     }
 
