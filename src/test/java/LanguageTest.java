@@ -1,5 +1,7 @@
 import com.sun.source.tree.ClassTree;
 import com.sun.source.tree.CompilationUnitTree;
+import com.sun.source.tree.ExpressionTree;
+import com.sun.source.tree.ForLoopTree;
 import com.sun.source.tree.LineMap;
 import com.sun.source.tree.MemberSelectTree;
 import com.sun.source.tree.MethodInvocationTree;
@@ -8,6 +10,7 @@ import com.sun.source.tree.NewArrayTree;
 import com.sun.source.tree.NewClassTree;
 import com.sun.source.tree.Tree;
 import com.sun.source.tree.VariableTree;
+import com.sun.source.tree.WhileLoopTree;
 import com.sun.source.util.JavacTask;
 import com.sun.source.util.TreeScanner;
 import com.sun.source.util.Trees;
@@ -15,6 +18,7 @@ import java.lang.reflect.Constructor;
 import java.lang.reflect.Field;
 import java.lang.reflect.Method;
 import java.lang.reflect.Modifier;
+import java.nio.file.Files;
 import java.nio.file.Path;
 import java.util.Arrays;
 import java.util.EnumSet;
@@ -47,10 +51,15 @@ public final class LanguageTest {
     private static final Set<Tree.Kind> FORBIDDEN = EnumSet.of(Tree.Kind.THROW, Tree.Kind.TRY, Tree.Kind.CATCH,
         Tree.Kind.SYNCHRONIZED, Tree.Kind.ASSERT, Tree.Kind.LAMBDA_EXPRESSION, Tree.Kind.MEMBER_REFERENCE,
         Tree.Kind.IMPORT, Tree.Kind.PACKAGE, Tree.Kind.STRING_LITERAL, Tree.Kind.DOUBLE_LITERAL,
-        Tree.Kind.FLOAT_LITERAL, Tree.Kind.ANNOTATION);
+        Tree.Kind.FLOAT_LITERAL, Tree.Kind.ANNOTATION, Tree.Kind.DO_WHILE_LOOP, Tree.Kind.ENHANCED_FOR_LOOP);
+
+    /** The types of rule 3 that the file needs; what it does not need is not let in unseen. */
+    private static final Set<String> TYPES = Set.of("int", "long", "boolean", "void", "int[]", "boolean[]", "Moment[]",
+        "Script", "Cast", "Moment", "Acts", "Outlook", "Chances", "Heard", "Slots");
 
     public static void main(String[] args) throws Exception {
         face();
+        signs();
         source();
         check.end("LanguageTest");
     }
@@ -86,6 +95,11 @@ public final class LanguageTest {
         check.due("LATE", LastBows.LATE, -3);
         check.due("FULL", LastBows.FULL, -4);
         check.due("NONE", LastBows.NONE, -9);
+    }
+
+    private static void signs() throws Exception {
+        String source = Files.readString(SOURCE);
+        check.holds("signs are 1 to 127", source.chars().allMatch(sign -> sign >= 1 && sign <= 127));
     }
 
     private static void source() throws Exception {
@@ -162,6 +176,8 @@ public final class LanguageTest {
                 (isPublic ? publicNames : otherNames).add(method);
             }
             check.holds(method + " takes seven at most", tree.getParameters().size() <= 7);
+            check.holds(method + " answers a type that is allowed",
+                constructing || TYPES.contains(tree.getReturnType().toString()));
             check.holds(method + " is short", line(tree, false) - line(tree, true) < 60);
             super.visitMethod(tree, nothing);
             method = "";
@@ -180,6 +196,30 @@ public final class LanguageTest {
                 calls.computeIfAbsent(method, key -> new HashSet<>()).add(name);
             }
             return super.visitMethodInvocation(tree, nothing);
+        }
+
+        @Override
+        public Void visitVariable(VariableTree tree, Void nothing) {
+            check.holds(tree.getName() + " is of a type that is allowed", TYPES.contains(tree.getType().toString()));
+            return super.visitVariable(tree, nothing);
+        }
+
+        @Override
+        public Void visitForLoop(ForLoopTree tree, Void nothing) {
+            check.holds("the end of the loop at line " + line(tree, true) + " can be seen",
+                tree.getCondition() != null && isBounded(tree.getCondition()) && tree.getUpdate().size() == 1);
+            return super.visitForLoop(tree, nothing);
+        }
+
+        @Override
+        public Void visitWhileLoop(WhileLoopTree tree, Void nothing) {
+            check.holds("the end of the loop at line " + line(tree, true) + " can be seen", isBounded(tree.getCondition()));
+            return super.visitWhileLoop(tree, nothing);
+        }
+
+        /** A counter under a bound stands first in the condition. */
+        private static boolean isBounded(ExpressionTree condition) {
+            return condition.toString().matches("\\(?\\w+ <=? [\\w.]+( && .*)?\\)?");
         }
 
         /** Rows are made in constructors alone, so that a long run makes nothing more. */
